@@ -519,7 +519,7 @@ public final class Pc32 {
                 return (code & 1) == 0 ? 1 : 4;
             case MOV_REG_IMM:
                 return code < 0xB8 ? 1 : 4;
-            case MOV_ZERO_EXTENDED: case SET_IF: case MOVE_STRING: case STORE_STRING:
+            case MOV_ZERO_EXTENDED: case SET_IF:
                 return 1;
             default:
                 return 4;

@@ -177,6 +177,7 @@ public final class FaceTest {
         Expect.same("HALTED", x.status(), 1);
         Expect.same("port write", x.portWrite(0), 0x0740);
         x.setReg(10, -1);
+        x.setReg(15, 3);
         long program = x.peek(100, 3);
         x.reset();
         fresh("reset", x);

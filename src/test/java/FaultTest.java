@@ -1,7 +1,7 @@
 // Promises 7, 11 and 13: translation, page faults, privilege, delivery, double faults, shutdown and interrupts.
 public final class FaultTest {
     private static final int CF = 1, IF = 512;
-    private static final int EAX = 0, ECX = 1, EDX = 2, EBX = 3, ESP = 4, ESI = 6, EDI = 7, EIP = 8, FLAGS = 9;
+    private static final int EAX = 0, ECX = 1, EBX = 3, ESP = 4, ESI = 6, EDI = 7, EIP = 8, FLAGS = 9;
     private static final int CR0 = 10, CR2 = 11, CR3 = 12, CR4 = 13, CR5 = 14, CPL = 15;
     private static final int DELIVERIES = 17, VECTOR = 18, ERROR = 19;
 
@@ -268,6 +268,62 @@ public final class FaultTest {
         has("fetch", x, CR2, 0x87654321);
     }
 
+    /** Every byte of an instruction in turn is the first on an absent page; the last time none is. */
+    private static void fetchesAsFarAsNeeded() {
+        String[] forms = {"90", "05 01 00 00 00", "04 01", "6A 01", "68 01 00 00 00", "EB 00", "E9 00 00 00 00", "B0 01", "B8 01 00 00 00",
+            "80 C0 01", "81 C0 01 00 00 00", "83 C0 01", "C1 E0 01", "D1 E0", "D3 E0", "F7 D0", "F7 14 35 40 00 00 00", "FF C0", "FF E0",
+            "FF 04 24", "FF 44 24 FC", "FF 84 24 F0 FF FF FF", "FF 05 D0 00 00 00", "C6 C0 01", "C7 C0 01 00 00 00", "8D 04 24",
+            "8D 44 24 01", "0F 84 00 00 00 00", "0F 94 C0", "0F AF C1", "0F B6 C1", "F3 A4", "F3 AA", "81 44 24 FC 01 00 00 00",
+            "C7 84 24 F0 FF FF FF 01 00 00 00", "01 C8", "85 C8", "74 00", "E8 00 00 00 00"};
+        for (String hex : forms) {
+            int length = hex.replace(" ", "").length() / 2;
+            for (int kept = 1; kept <= length; kept++) {
+                Pc32 x = paged(3, "", EIP, 64 - kept, ESP, STACK_END - 16, ESI, 128, EDI, 128);
+                String here = hex.replace(" ", "").substring(0, 2 * kept);
+                Expect.load(x, 0xC0 - kept, here);
+                page(x, 1, 0);
+                if (kept == length) {
+                    x.run(1);
+                    has(hex + " to the page's end", x, DELIVERIES, 0, CR2, 0);
+                } else {
+                    delivered(hex + " after " + kept, x, 14, 4);
+                    has(hex + " after " + kept, x, CR2, 64);
+                    pushed(hex, x, STACK_END - 16, 0x3002, 64 - kept, 4);
+                }
+            }
+        }
+        String[] privileged = {"E6 05", "0F 20 C0", "0F 22 D8"};
+        for (String hex : privileged) {
+            int length = hex.replace(" ", "").length() / 2;
+            for (int kept = 1; kept <= length; kept++) {
+                Pc32 x = paged(3, "", EIP, 64 - kept);
+                Expect.load(x, 0xC0 - kept, hex.replace(" ", "").substring(0, 2 * kept));
+                page(x, 1, 0);
+                delivered(hex + " after " + kept, x, kept == length ? 13 : 14, kept == length ? 0 : 4);
+            }
+        }
+    }
+
+    private static void bytesAtThePageEnd() {
+        String[] forms = {"8A 06", "88 06", "00 06", "38 06", "84 06", "80 06 01", "80 3E 01", "C6 06 01", "0F B6 06", "0F 95 06"};
+        for (String hex : forms) {
+            Pc32 x = paged(3, hex, ESI, DATA + 63, EAX, 1);
+            page(x, 2, 0);
+            x.run(1);
+            has(hex + " takes one byte", x, DELIVERIES, 0, CR2, 0);
+        }
+        Pc32 x = paged(3, "A4", ESI, DATA + 63, EDI, STACK_END - 1);
+        page(x, 2, 0);
+        x.poke(0xFF, 0x5A, 1);
+        x.run(1);
+        has("MOVSB takes one byte", x, DELIVERIES, 0, ESI, DATA + 64, EDI, STACK_END);
+        Expect.same("MOVSB", x.peek(0x17F, 1), 0x5A);
+        x = paged(3, "AA", EDI, STACK_END - 1, EAX, 0x1234);
+        x.run(1);
+        has("STOSB takes one byte", x, DELIVERIES, 0, EDI, STACK_END);
+        Expect.same("STOSB", x.peek(0x17F, 1), 0x34);
+    }
+
     private static void stackFaults() {
         String[] pushes = {"50", "68 01 00 00 00", "6A 01", "E8 00 00 00 00", "FF F0", "FF D0"};
         for (String hex : pushes) {
@@ -286,6 +342,17 @@ public final class FaultTest {
         Pc32 x = paged(0, "CF", ESP, STACK_END - 8, FLAGS, CF);
         Expect.same("IRET whose third word is absent", x.run(1), 1);
         has("IRET", x, VECTOR, 14, ERROR, 0, CR2, STACK_END, ESP, STACK_END - 8 - 16, FLAGS, 2 | CF);
+        x = paged(0, "CF", ESP, FREE + 60);
+        page(x, 5, 0xC7);
+        x.poke(16, 0, 2);
+        Expect.same("IRET whose first word is absent", x.run(1), 1);
+        Expect.same("the second was not reached", entry(x, 5), 0xC7);
+        has("and then there is no stack", x, CR2, FREE + 56, DELIVERIES, 0);
+        x = paged(0, "CF", ESP, STACK_END - 12);
+        x.poke(0x140 + 52, 0x40, 4);
+        x.poke(0x140 + 60, 0x1234, 4);
+        x.run(1);
+        has("IRET up to the page's end", x, DELIVERIES, 0, EIP, 0x40, ESP, 0x1234);
     }
 
     private static void stringFaults() {
@@ -350,6 +417,16 @@ public final class FaultTest {
         x = paged(3, "CD FF");
         x.poke(2 * 13, 0x8000 | handler(13), 2);
         delivered("INT 255", x, 13, 8 * 255 + 2);
+        x = paged(0, "CD 00", ESP, STACK_END, FLAGS, 0xFFF);
+        delivered("vector 0 is at the table's begin", x, 0, -1);
+        x = new Pc32(4);
+        Expect.load(x, 0, "CD 7F CD 80");
+        x.setReg(ESP, 0xF0);
+        x.poke(0xFE, 2, 2);
+        Expect.same("the last half word of memory", x.run(1), 1);
+        has("the last half word of memory", x, VECTOR, 0x7F, EIP, 2);
+        Expect.same("a half word past the end", x.run(1), 1);
+        Expect.same("a half word past the end counts as 0", x.status(), Pc32.SHUTDOWN);
     }
 
     private static void returns() {
@@ -527,6 +604,24 @@ public final class FaultTest {
         has("no longer pending", x, 16, -1, DELIVERIES, 0, EIP, 1, FLAGS, 2 | IF);
     }
 
+    private static void wholeWordsArePushed() {
+        Pc32 x = new Pc32(16);
+        x.poke(0x200 + 2 * 33, 0x7FFF, 2);
+        x.setReg(CR4, 0x200);
+        x.setReg(FLAGS, 0xFFF);
+        x.setReg(EIP, 0x81828384);
+        x.setReg(CR5, 0x100);
+        x.setReg(ESP, 0x91929394);
+        x.setReg(CPL, 3);
+        x.irq(33);
+        x.run(1);
+        has("the highest entry", x, EIP, 0x7FFF, ESP, 0x100 - 12, FLAGS, 0xEC7 & ~IF);
+        Expect.same("ESP", x.peek(0xFC, 4), 0x91929394L);
+        Expect.same("flags word", x.peek(0xF8, 4), 0x3EC7);
+        Expect.same("return address", x.peek(0xF4, 4), 0x81828384L);
+        Expect.same("no more", x.peek(0xF0, 4), 0);
+    }
+
     private static void interruptInAString() {
         Pc32 x = paged(0, "90 F3 AA", FLAGS, IF, EDI, DATA, ECX, 9, EAX, 0x77);
         x.run(3);
@@ -555,6 +650,8 @@ public final class FaultTest {
         accessAcrossPages();
         tableOverwritten();
         fetchAcrossPages();
+        fetchesAsFarAsNeeded();
+        bytesAtThePageEnd();
         stackFaults();
         stringFaults();
         privileged();
@@ -567,6 +664,7 @@ public final class FaultTest {
         readOnlyKernelStack();
         interrupts();
         interruptsThatFail();
+        wholeWordsArePushed();
         interruptInAString();
         counting();
         Expect.end("FaultTest");

@@ -42,7 +42,7 @@ public final class InstructionTest {
     /** Every row: k, width, d, s, carry before, result, flags after among CF PF ZF SF OF. */
     private static final int[][] ALU = {
         {0, 8, 0x7F, 0x01, 1, 0x80, SF | OF}, {0, 8, 0xFF, 0x01, 0, 0x00, CF | ZF | PF}, {0, 8, 0x80, 0x80, 0, 0, CF | ZF | PF | OF},
-        {0, 8, 1, 2, 1, 3, PF}, {0, 32, 0x7FFFFFFF, 1, 0, 0x80000000, SF | OF | PF}, {0, 32, -1, 1, 0, 0, CF | ZF | PF},
+        {0, 8, 1, 2, 1, 3, PF}, {0, 8, 1, 0, 1, 1, 0}, {0, 8, 0x40, 0x40, 0, 0x80, SF | OF}, {0, 32, 0x7FFFFFFF, 1, 0, 0x80000000, SF | OF | PF}, {0, 32, -1, 1, 0, 0, CF | ZF | PF},
         {0, 32, 0x100, 0, 0, 0x100, PF}, {0, 32, 0x80000000, 0x80000000, 0, 0, CF | ZF | PF | OF},
         {1, 8, 0x80, 0x01, 1, 0x81, SF | PF}, {1, 32, 0, 0, 1, 0, ZF | PF}, {1, 32, 0x80000000, 2, 1, 0x80000002, SF},
         {2, 8, 0xFF, 0x00, 1, 0x00, CF | ZF | PF}, {2, 8, 0x7F, 0x00, 1, 0x80, SF | OF}, {2, 8, 0xFF, 0xFF, 1, 0xFF, CF | SF | PF},
@@ -88,6 +88,7 @@ public final class InstructionTest {
             Expect.same("length", x.reg(EIP), 1 + bytes);
             x = ran(imm(0x80 + wide, 1) + imm(0xC2 + 8 * k, 1) + imm(s, bytes), EDX, d | high, FLAGS, before);
             checkAlu("r/m op i", row, x, x.reg(EDX));
+            Expect.same("length", x.reg(EIP), 2 + bytes);
             aluInMemory(row, op, before);
         }
     }
@@ -253,6 +254,35 @@ public final class InstructionTest {
         }
     }
 
+    private static void operandsInMemory() {
+        String[] modes = {"06", "46 10", "86 00 01 00 00", "04 1E", "44 5E 10", "84 5E 00 01 00 00", "05 00 02 00 00"};
+        int[] places = {0x200, 0x210, 0x300, 0x240, 0x290, 0x380, 0x200};
+        for (int i = 0; i < modes.length; i++) {
+            int at = places[i];
+            Pc32 x = with("8B" + modes[i], ESI, 0x200, EBX, 0x40);
+            x.poke(at, 0x87654321L, 4);
+            x.run(1);
+            has("MOV from " + modes[i], x, EAX, 0x87654321, EIP, 1 + modes[i].replace(" ", "").length() / 2);
+            x = with("01" + modes[i], ESI, 0x200, EBX, 0x40, EAX, 0x01010101);
+            x.poke(at, 0x87654321L, 4);
+            x.run(1);
+            Expect.same("ADD to " + modes[i], x.peek(at, 4), 0x88664422L);
+            has("ADD to " + modes[i], x, EAX, 0x01010101);
+            x = with("0F B6" + modes[i], ESI, 0x200, EBX, 0x40, EAX, -1);
+            x.poke(at, 0x87654399L, 4);
+            x.run(1);
+            has("MOVZX from " + modes[i], x, EAX, 0x99);
+            x = with("0F 94" + modes[i], ESI, 0x200, EBX, 0x40, FLAGS, ZF);
+            x.poke(at, 0x87654321L, 4);
+            x.run(1);
+            Expect.same("set to " + modes[i], x.peek(at, 4), 0x87654301L);
+            x = with("0F AF" + modes[i], ESI, 0x200, EBX, 0x40, EAX, 3);
+            x.poke(at, 0xFFFFFFFEL, 4);
+            x.run(1);
+            has("IMUL by " + modes[i], x, EAX, -6);
+        }
+    }
+
     private static void products() {
         has("IMUL", ran("0F AF C1", EAX, -3, ECX, 7), EAX, -21, FLAGS, 2 | SF | PF);
         has("IMUL too long", ran("0F AF C1", EAX, 0x10000, ECX, 0x10000), EAX, 0, FLAGS, 2 | CF | OF | ZF | PF);
@@ -299,7 +329,9 @@ public final class InstructionTest {
         has("SHR CL", ran("D3 E8", EAX, 0x100, ECX, 0xFFFFFF08), EAX, 1, FLAGS, 2, ECX, 0xFFFFFF08);
         has("SHR CL uses 5 bits", ran("D3 E8", EAX, 0x100, ECX, 0x28), EAX, 1, FLAGS, 2);
         has("SHR CL 0", ran("D3 E8", EAX, 0x100, ECX, 0x120, FLAGS, CF | SF), EAX, 0x100, FLAGS, 2 | CF | SF);
-        has("SHL ECX, CL", ran("D3 E1", ECX, 2), ECX, 8, FLAGS, 2);
+        has("SHL ECX, CL", ran("D3 E1", ECX, 2), ECX, 8, FLAGS, 2, EIP, 2);
+        has("SHR of 0", ran("D1 E9", ECX, 0), ECX, 0, FLAGS, 2 | ZF | PF, EIP, 2);
+        has("SHR of 1", ran("C1 E9 01", ECX, 1), ECX, 0, FLAGS, 2 | CF | ZF | PF, EIP, 3);
     }
 
     private static void flagForms() {
@@ -446,6 +478,7 @@ public final class InstructionTest {
         jumpsAndCalls();
         moves();
         addresses();
+        operandsInMemory();
         products();
         divisionFaults();
         shifts();
