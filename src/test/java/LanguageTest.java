@@ -113,7 +113,7 @@ public final class LanguageTest {
                 if (c == ')') open--;
             }
             String inside = body.substring(matcher.end(), end);
-            Expect.yes(name + " has a call inside the arguments of " + matcher.group(1), callsIn(inside).isEmpty());
+            Expect.yes(name + " has no call inside the arguments of " + matcher.group(1), callsIn(inside).isEmpty());
         }
     }
 
