@@ -15,7 +15,7 @@ final class Expect {
         wrong++;
         if (wrong > LINES) return;
         System.out.println(what + " answered " + got + " (" + Long.toHexString(got) + "), due is " + want
-            + " (" + Long.toHexString(want) + ")");
+            + " (" + Long.toHexString(want) + ")" + Document.now());
     }
 
     static void yes(String what, boolean got) {
@@ -38,6 +38,7 @@ final class Expect {
     }
 
     static void end(String name) {
+        Document.lookUpQuotes();
         System.out.println(name + ": " + right + " answers as due, " + wrong + " not");
         if (wrong != 0) System.exit(1);
     }

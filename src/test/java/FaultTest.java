@@ -1,60 +1,5 @@
 // Promises 7, 11 and 13: translation, page faults, privilege, delivery, double faults, shutdown and interrupts.
-public final class FaultTest {
-    private static final int CF = 1, IF = 512;
-    private static final int EAX = 0, ECX = 1, EBX = 3, ESP = 4, ESI = 6, EDI = 7, EIP = 8, FLAGS = 9;
-    private static final int CR0 = 10, CR2 = 11, CR3 = 12, CR4 = 13, CR5 = 14, CPL = 15;
-    private static final int DELIVERIES = 17, VECTOR = 18, ERROR = 19;
-
-    // The layout of the machines here: interrupt table at physical 0, directory at 200h, page table at 210h. Linear pages
-    // (64 bytes each) 0: code at physical 80h, 1: data at C0h, 2: data at 100h, 3: kernel stack at 140h, 4: free.
-    private static final int DIRECTORY = 0x200, TABLE = 0x210;
-    private static final int CODE = 0, DATA = 64, NEXT_DATA = 128, STACK_END = 256, FREE = 256;
-
-    private static int handler(int vector) {
-        return 0x1000 + vector;
-    }
-
-    private static Pc32 paged(int cpl, String hex, int... registersAndValues) {
-        Pc32 x = new Pc32(16);
-        for (int v = 0; v < 48; v++) x.poke(2 * v, handler(v), 2);
-        x.poke(DIRECTORY, TABLE | 7, 2);
-        for (int page = 0; page < 4; page++) x.poke(TABLE + 2 * page, 0x80 + 64 * page + 7, 2);
-        Expect.load(x, 0x80, hex);
-        x.setReg(CR3, DIRECTORY);
-        x.setReg(CR5, STACK_END);
-        x.setReg(ESP, STACK_END);
-        x.setReg(CPL, cpl);
-        x.setReg(CR0, 0x80000000);
-        for (int i = 0; i + 1 < registersAndValues.length; i += 2) x.setReg(registersAndValues[i], registersAndValues[i + 1]);
-        return x;
-    }
-
-    private static void page(Pc32 x, int number, int entry) {
-        x.poke(TABLE + 2 * number, entry, 2);
-    }
-
-    private static int entry(Pc32 x, int number) {
-        return (int) x.peek(TABLE + 2 * number, 2);
-    }
-
-    private static void has(String what, Pc32 x, int... registersAndValues) {
-        for (int i = 0; i + 1 < registersAndValues.length; i += 2) {
-            Expect.same(what + ": reg " + registersAndValues[i], x.reg(registersAndValues[i]), registersAndValues[i + 1]);
-        }
-    }
-
-    private static void delivered(String what, Pc32 x, int vector, int error) {
-        Expect.same(what + ": run", x.run(1), 1);
-        has(what, x, DELIVERIES, 1, VECTOR, vector, ERROR, error, EIP, handler(vector), CPL, 0);
-    }
-
-    /** The words on the kernel stack, from the first that was pushed. */
-    private static void pushed(String what, Pc32 x, int... words) {
-        for (int i = 0; i < words.length; i++) {
-            Expect.same(what + ": word " + i, (int) x.peek(0x140 + 64 - 4 - 4 * i, 4), words[i]);
-        }
-    }
-
+public final class FaultTest extends Bench {
     // ---- translation ----
 
     private static void translateWithoutPaging() {
@@ -83,7 +28,7 @@ public final class FaultTest {
                 x.poke(DIRECTORY, TABLE | 7, 2);
             }
         }
-        Expect.same("translate changes no T", entry(x, 5), 0x3C7);
+        Expect.same("translate changes no T", page(x, 5), 0x3C7);
         Expect.same("translate changes no D", x.peek(DIRECTORY, 2), TABLE | 7);
         has("translate changes no register", x, CR2, 0);
         page(x, 5, 0xFC07 | 0x3C0);
@@ -139,12 +84,12 @@ public final class FaultTest {
                 page(x, 1, 0xC0 | 5);
                 if (write == 1) delivered("read only", x, 14, error + 1);
                 else x.run(1);
-                Expect.same("read only", entry(x, 1), write == 1 ? 0xC5 : 0xCD);
+                Expect.same("read only", page(x, 1), write == 1 ? 0xC5 : 0xCD);
                 x = paged(cpl, forms[write], ESI, DATA);
                 page(x, 1, 0xC0 | 3);
                 if (cpl == 3) delivered("supervisor", x, 14, error + 1);
                 else x.run(1);
-                Expect.same("supervisor", entry(x, 1), cpl == 3 ? 0xC3 : write == 1 ? 0xDB : 0xCB);
+                Expect.same("supervisor", page(x, 1), cpl == 3 ? 0xC3 : write == 1 ? 0xDB : 0xCB);
             }
         }
     }
@@ -161,9 +106,9 @@ public final class FaultTest {
             x.poke(0xC0, 1, 4);
             Expect.same(row[0], x.run(1), 1);
             has(row[0] + " no fault", x, DELIVERIES, 0);
-            Expect.same(row[0] + " marks T", entry(x, 1), Integer.parseInt(row[1], 16));
+            Expect.same(row[0] + " marks T", page(x, 1), Integer.parseInt(row[1], 16));
             Expect.same(row[0] + " marks D", x.peek(DIRECTORY, 2), TABLE | 15);
-            Expect.same("the code's T", entry(x, 0), 0x8F);
+            Expect.same("the code's T", page(x, 0), 0x8F);
         }
     }
 
@@ -182,7 +127,7 @@ public final class FaultTest {
             page(x, 1, 0xC5);
             delivered(hex, x, 14, 3);
             has(hex, x, CR2, DATA, FLAGS, 0xCC7);
-            Expect.same("no mark", entry(x, 1), 0xC5);
+            Expect.same("no mark", page(x, 1), 0xC5);
         }
     }
 
@@ -216,8 +161,8 @@ public final class FaultTest {
         delivered("write to second page", x, 14, 3);
         has("CR2 is the byte that faults", x, CR2, NEXT_DATA);
         Expect.same("nothing is written", x.peek(0xFE, 2), 0);
-        Expect.same("the first page's mark stays", entry(x, 1), 0xDF);
-        Expect.same("the second has none", entry(x, 2), 0x105);
+        Expect.same("the first page's mark stays", page(x, 1), 0xDF);
+        Expect.same("the second has none", page(x, 2), 0x105);
         x = paged(0, "8B 06", ESI, 0xFFF);
         x.poke(DIRECTORY + 14, TABLE | 7, 2);
         page(x, 7, 0xC7);
@@ -242,7 +187,7 @@ public final class FaultTest {
         x = paged(0, "00 03", EBX, FREE + 0x18, EAX, 1);
         page(x, 4, 0x200 | 7);
         x.run(1);
-        Expect.same("read after the marks", entry(x, 4), 0x220);
+        Expect.same("read after the marks", page(x, 4), 0x220);
     }
 
     private static void fetchAcrossPages() {
@@ -262,7 +207,7 @@ public final class FaultTest {
         page(x, 0, 0x83);
         delivered("fetch from a supervisor page", x, 14, 5);
         has("fetch", x, CR2, 62);
-        Expect.same("no mark", entry(x, 0), 0x83);
+        Expect.same("no mark", page(x, 0), 0x83);
         x = paged(3, "90", EIP, 0x87654321);
         delivered("fetch far away", x, 14, 4);
         has("fetch", x, CR2, 0x87654321);
@@ -346,7 +291,7 @@ public final class FaultTest {
         page(x, 5, 0xC7);
         x.poke(16, 0, 2);
         Expect.same("IRET whose first word is absent", x.run(1), 1);
-        Expect.same("the second was not reached", entry(x, 5), 0xC7);
+        Expect.same("the second was not reached", page(x, 5), 0xC7);
         has("and then there is no stack", x, CR2, FREE + 56, DELIVERIES, 0);
         x = paged(0, "CF", ESP, STACK_END - 12);
         x.poke(0x140 + 52, 0x40, 4);
@@ -476,14 +421,6 @@ public final class FaultTest {
         shutdown("INT 8 without entry", x, 0);
     }
 
-    private static void shutdown(String what, Pc32 x, int cr2) {
-        int[] before = new int[20];
-        for (int i = 0; i < 20; i++) before[i] = x.reg(i);
-        Expect.same(what + ": the step counts", x.run(5), 1);
-        Expect.same(what + ": status", x.status(), Pc32.SHUTDOWN);
-        for (int i = 0; i < 20; i++) Expect.same(what + ": reg " + i, x.reg(i), i == CR2 ? cr2 : before[i]);
-    }
-
     private static void tripleFaults() {
         Pc32 x = paged(3, "06", FLAGS, 0xFFF);
         x.poke(12, 0, 2);
@@ -493,7 +430,7 @@ public final class FaultTest {
         x.poke(28, 0, 2);
         x.poke(16, 0, 2);
         shutdown("CR2 is set also then", x, FREE + 1);
-        Expect.same("the fetch's mark stays", entry(x, 0), 0x8F);
+        Expect.same("the fetch's mark stays", page(x, 0), 0x8F);
         x = paged(3, "CD 20", CR5, 192 + 8);
         x.poke(64, 0x8000 | 5, 2);
         page(x, 2, 0);
@@ -501,7 +438,7 @@ public final class FaultTest {
         shutdown("words that were pushed stay", x, 188);
         Expect.same("pushed ESP", x.peek(0x144, 4), STACK_END);
         Expect.same("pushed flags word", x.peek(0x140, 4), 0x3002);
-        Expect.same("the stack's mark", entry(x, 3), 0x15F);
+        Expect.same("the stack's mark", page(x, 3), 0x15F);
     }
 
     private static void stackFaultsInDelivery() {
@@ -521,30 +458,12 @@ public final class FaultTest {
         x = paged(0, "06", ESP, STACK_END + 2);
         shutdown("a word across pages", x, STACK_END);
         Expect.same("nothing of the word is written", x.peek(0x140 + 62, 2), 0);
-        Expect.same("but the first page is marked", entry(x, 3), 0x15F);
+        Expect.same("but the first page is marked", page(x, 3), 0x15F);
         // The level of a delivery is 0, whatever CPL is.
         x = paged(3, "06");
         page(x, 3, 0x143);
         delivered("supervisor stack", x, 6, -1);
-        Expect.same("marks", entry(x, 3), 0x15B);
-    }
-
-    private static void freeVectorThenPageFault() {
-        // For 14 to be delivered where 32 could not be, the first try must change the page tables under the second. The word
-        // ESP goes, at the first try, over T of page 8 (now absent) and of page 9 (now the directory's frame); the next word
-        // faults. At the second try ESP so goes over the directory, whose entry 1 then leads to a table with page 8 in it.
-        Pc32 x = paged(3, "CD 20", CR5, 0x244, ESP, 0x02170000, FLAGS, IF | CF);
-        x.poke(64, 0x8000 | 5, 2);
-        x.poke(0x200, 0x02470257, 4);
-        x.poke(0x250, 0x87, 2);
-        x.poke(0x240, 0x02470307, 4);
-        x.poke(0x210, 0x307, 2);
-        delivered("32, then 14", x, 14, 2);
-        has("32, then 14", x, CR2, 0x23C, ESP, 0x234, FLAGS, 2 | CF);
-        Expect.same("ESP, second try", x.peek(0x200, 2), 0);
-        Expect.same("flags word", x.peek(0x33C, 4), 0x3203);
-        Expect.same("return address is that of the INT", x.peek(0x338, 4), 0);
-        Expect.same("error code", x.peek(0x334, 4), 2);
+        Expect.same("marks", page(x, 3), 0x15B);
     }
 
     private static void readOnlyKernelStack() {
@@ -552,7 +471,7 @@ public final class FaultTest {
         x.poke(64, 0x8000 | 5, 2);
         page(x, 3, 0x145);
         shutdown("32, 14 and 8 all fail", x, STACK_END - 4);
-        Expect.same("no mark on it", entry(x, 3), 0x145);
+        Expect.same("no mark on it", page(x, 3), 0x145);
     }
 
     // ---- interrupts from outside ----
@@ -660,7 +579,6 @@ public final class FaultTest {
         emptyEntries();
         tripleFaults();
         stackFaultsInDelivery();
-        freeVectorThenPageFault();
         readOnlyKernelStack();
         interrupts();
         interruptsThatFail();

@@ -1,30 +1,5 @@
 // Promise 7: what each form does in a step, with paging off, and how many steps run does.
-public final class InstructionTest {
-    private static final int CF = 1, PF = 4, ZF = 64, SF = 128, IF = 512, DF = 1024, OF = 2048;
-    private static final int EAX = 0, ECX = 1, EDX = 2, EBX = 3, ESP = 4, EBP = 5, ESI = 6, EDI = 7, EIP = 8, FLAGS = 9;
-
-    private static Pc32 with(String hex, int... registersAndValues) {
-        Pc32 x = new Pc32(16);
-        Expect.load(x, 0, hex);
-        x.setReg(ESP, 0x300);
-        for (int i = 0; i + 1 < registersAndValues.length; i += 2) x.setReg(registersAndValues[i], registersAndValues[i + 1]);
-        return x;
-    }
-
-    private static Pc32 ran(String hex, int... registersAndValues) {
-        Pc32 x = with(hex, registersAndValues);
-        Expect.same(hex + ": run", x.run(1), 1);
-        Expect.same(hex + ": no delivery", x.reg(17), 0);
-        Expect.same(hex + ": no shutdown", x.status() == Pc32.SHUTDOWN ? 1 : 0, 0);
-        return x;
-    }
-
-    private static void has(String what, Pc32 x, int... registersAndValues) {
-        for (int i = 0; i + 1 < registersAndValues.length; i += 2) {
-            Expect.same(what + ": reg " + registersAndValues[i], x.reg(registersAndValues[i]), registersAndValues[i + 1]);
-        }
-    }
-
+public final class InstructionTest extends Bench {
     private static void limits() {
         Pc32 x = new Pc32(16);
         int[][] limitAndDone = {{0, 0}, {-1, 0}, {Integer.MIN_VALUE, 0}, {1, 1}, {199, 199}, {200, 200}, {201, 200},
@@ -62,12 +37,6 @@ public final class InstructionTest {
         int want = row[0] == 7 ? row[2] : row[5];
         Expect.same(form + " k" + row[0] + " result", wide ? left : left & 255, want);
         Expect.same(form + " k" + row[0] + " flags", x.reg(FLAGS), row[6] | 2 | IF | DF);
-    }
-
-    private static String imm(int value, int bytes) {
-        StringBuilder hex = new StringBuilder();
-        for (int i = 0; i < bytes; i++) hex.append(String.format("%02X", (value >>> (8 * i)) & 255));
-        return hex.toString();
     }
 
     private static void alu() {
