@@ -227,22 +227,48 @@ public final class DeliveryEdgeTest extends Bench {
         shutdown("32, 13, 8, SHUTDOWN", x, 0);
     }
 
-    private static void freeVectorThenPageFault() {
-        // For 14 to be delivered where 32 could not be, the first try must change the page tables under the second. The word
-        // ESP goes, at the first try, over T of page 8 (now absent) and of page 9 (now the directory's frame); the next word
-        // faults. At the second try ESP so goes over the directory, whose entry 1 then leads to a table with page 8 in it.
-        Pc32 x = paged(3, "CD 20", CR5, 0x244, ESP, 0x02170000, FLAGS, IF | CF);
-        x.poke(64, 0x8000 | 5, 2);
+    /**
+     * For a delivery to be made where the one before it met a page fault, the first try must change the page tables under the
+     * second. The word ESP goes, at the first try, over T of page 8 (now absent) and of page 9 (now the directory's frame);
+     * the next word faults. At the second try ESP so goes over the directory, whose entry 1 then leads to a table with page 8
+     * in it.
+     */
+    private static Pc32 secondTryFinds(String hex) {
+        Pc32 x = paged(3, hex, CR5, 0x244, ESP, 0x02170000, FLAGS, IF | CF);
         x.poke(0x200, 0x02470257, 4);
         x.poke(0x250, 0x87, 2);
         x.poke(0x240, 0x02470307, 4);
         x.poke(0x210, 0x307, 2);
-        delivered("32, then 14", x, 14, 2);
-        has("32, then 14", x, CR2, 0x23C, ESP, 0x234, FLAGS, 2 | CF);
-        Expect.same("ESP, second try", x.peek(0x200, 2), 0);
-        Expect.same("flags word", x.peek(0x33C, 4), 0x3203);
-        Expect.same("return address is that of the INT", x.peek(0x338, 4), 0);
-        Expect.same("error code", x.peek(0x334, 4), 2);
+        return x;
+    }
+
+    private static void secondTryMade(String what, Pc32 x, int vector, int error) {
+        delivered(what, x, vector, error);
+        has(what, x, CR2, 0x23C, ESP, 0x234, FLAGS, 2 | CF);
+        Expect.same(what + ": ESP, second try", x.peek(0x200, 2), 0);
+        pushedBelow(what, x, 0x340, 0x3203, CODE, error);
+    }
+
+    private static void pageFaultInADelivery() {
+        says("A fault that arises in (1) or (2): if v is 8: status becomes SHUTDOWN, nothing else changes. Else if v < 32: vector 8 is delivered"
+            + " with error code 0. Else the new fault is delivered with its error code.");
+        Pc32 x = secondTryFinds("CD 20");
+        pagedEntry(x, 32, 0x8000 | 5);
+        secondTryMade("32, then 14", x, 14, 2);
+        x = secondTryFinds("90");
+        x.irq(33);
+        secondTryMade("33 from outside, then 14", x, 14, 2);
+        x = secondTryFinds("06");
+        secondTryMade("6, then 8", x, 8, 0);
+        x = secondTryFinds("F4");
+        secondTryMade("13, then 8", x, 8, 0);
+        x = secondTryFinds("CD 1F");
+        pagedEntry(x, 31, 0x8000 | 5);
+        secondTryMade("31, then 8", x, 8, 0);
+        x = secondTryFinds("CD 08");
+        pagedEntry(x, 8, 0x8000 | 5);
+        shutdown("8: there is no second try", x, 0x23C);
+        Expect.same("8: there is no second try", x.peek(0x200, 4), 0x024F025F);
     }
 
     private static void returnAddressIsTheStart() {
@@ -307,7 +333,7 @@ public final class DeliveryEdgeTest extends Bench {
         shutdownAtVector8();
         vector8Below32();
         newFaultFrom32On();
-        freeVectorThenPageFault();
+        pageFaultInADelivery();
         returnAddressIsTheStart();
         stateAtTheStart();
         Expect.end("DeliveryEdgeTest");

@@ -1,7 +1,8 @@
 // The sentences of 'Terms' under FORMS, each with a test of its own for the boundary cases that it names.
 public final class FormsEdgeTest extends Bench {
     private static final int LEAST = Integer.MIN_VALUE, GREATEST = Integer.MAX_VALUE;
-    private static final int[] EDGES = {0, 1, 2, 0x7F, 0x80, 0xFF, 0x100, 0x7FFF, 0x8000, 0xFFFF, 0x10000, GREATEST - 1, GREATEST, LEAST, LEAST + 1, -2, -1};
+    private static final int[] EDGES = {0, 1, 2, 0x7F, 0x80, 0xFF, 0x100, 0x7FFF, 0x8000, 0xFFFF, 0x10000, GREATEST - 1, GREATEST, LEAST,
+        LEAST + 1, -2, -1};
 
     /** ZF, SF and PF of a result, found by counting. */
     private static int zsp(long result, int bits) {
@@ -620,7 +621,13 @@ public final class FormsEdgeTest extends Bench {
             x.run(1);
             Expect.same("past the end", x.peek(0x90, 1), 255);
         }
-        Pc32 x = paged(3, "A4", ESI, FREE, EDI, FREE + 64);
+        Pc32 x = paged(3, "A4", ESI, NEXT_DATA - 1, EDI, STACK_END - 1);
+        page(x, 2, 0);
+        x.poke(0xFF, 0x5A, 1);
+        notDelivered("one byte, at the ends of two pages", x);
+        Expect.same("one byte, at the ends of two pages", x.peek(0x17F, 1), 0x5A);
+        has("one byte, at the ends of two pages", x, ESI, NEXT_DATA, EDI, STACK_END, CR2, 0);
+        x = paged(3, "A4", ESI, FREE, EDI, FREE + 64);
         delivered("the read faults first", x, 14, 4);
         has("the read faults first", x, CR2, FREE);
         x = paged(3, "A4", ESI, DATA, EDI, FREE + 64, FLAGS, DF);
@@ -641,7 +648,10 @@ public final class FormsEdgeTest extends Bench {
             notDelivered("over the wrap", x);
             has("over the wrap", x, EDI, down == 1 ? -1 : 0);
         }
-        Pc32 x = paged(3, "AA", EDI, FREE);
+        Pc32 x = paged(3, "AA", EDI, STACK_END - 1, EAX, 0x5A5A5A5A);
+        notDelivered("one byte, at the end of a page", x);
+        Expect.same("one byte, at the end of a page", x.peek(0x17C, 4), 0x5A000000L);
+        x = paged(3, "AA", EDI, FREE);
         delivered("STOSB", x, 14, 6);
         has("STOSB", x, CR2, FREE, EDI, FREE);
     }

@@ -854,6 +854,13 @@ public final class TermsEdgeTest extends Bench {
             has("register " + rm, x, EAX, APART[2 * rm + 1], EIP, 2);
             x = ran("0F B6" + imm(0xC0 | rm, 1), APART);
             has("byte register " + rm, x, EAX, (APART[2 * (rm & 3) + 1] >>> (rm < 4 ? 0 : 8)) & 255, EIP, 3);
+            // The registers, and the address of the LEA before it, lead nowhere; but nothing is accessed by them.
+            for (String op : new String[] {"03", "3B", "85", "01", "89", "8B", "0F B6", "0F 90", "0F AF", "F7"}) {
+                x = paged(3, "8D 05 21 43 65 87" + op + imm((op.equals("F7") ? 0xD0 : 0xC0) | rm, 1), ECX, -1, EDX, FREE, EBX, -1, EBP, FREE,
+                    ESI, -1, EDI, FREE);
+                Expect.same(op + " of a register", x.run(2), 2);
+                has(op + " of a register", x, CR2, 0, DELIVERIES, 0);
+            }
         }
     }
 
@@ -910,6 +917,26 @@ public final class TermsEdgeTest extends Bench {
         address("80 00 00 00 80", 0x80000010);
         address("45 80", 0x6000000 - 128);
         address("44 24 80", 0x500000 - 128);
+        // The same places are read and written, for a byte and for a word.
+        String[] modes = {"06", "46 7F", "46 80", "86 00 01 00 00", "86 00 FF FF FF", "04 1E", "44 5E 10", "84 5E 80 00 00 00", "05 00 02 00 00"};
+        int[] places = {0x200, 0x27F, 0x180, 0x300, 0x100, 0x240, 0x290, 0x300, 0x200};
+        for (int i = 0; i < modes.length; i++) {
+            Pc32 x = with("8B" + modes[i] + "8A" + modes[i], ESI, 0x200, EBX, 0x40);
+            x.poke(places[i], 0x87654321L, 4);
+            x.run(1);
+            has("a word read at " + modes[i], x, EAX, 0x87654321);
+            x.poke(places[i], 0x99, 1);
+            x.run(1);
+            has("a byte read at " + modes[i], x, EAX, 0x87654399);
+            x = ran("89" + modes[i], ESI, 0x200, EBX, 0x40, EAX, 0x12345678);
+            Expect.same("a word written at " + modes[i], x.peek(places[i], 8), 0x12345678);
+            x = ran("88" + modes[i], ESI, 0x200, EBX, 0x40, EAX, 0x12345678);
+            Expect.same("a byte written at " + modes[i], x.peek(places[i], 8), 0x78);
+            x = with("01" + modes[i], ESI, 0x200, EBX, 0x40, EAX, 1);
+            x.poke(places[i], 0xFFFFFFFFL, 4);
+            x.run(1);
+            Expect.same("a word changed at " + modes[i], x.peek(places[i], 8), 0);
+        }
     }
 
     private static void regFieldThatMustBe() {
