@@ -54,7 +54,8 @@ public final class LanguageTest {
     private static void words(String text) {
         String[] forbidden = {"import", "package", "null", "throw", "throws", "try", "catch", "synchronized", "assert", "instanceof",
             "float", "double", "String", "Math", "Integer", "Long", "System", "Arrays", "Object", "enum", "interface", "record",
-            "protected", "extends", "implements", "volatile", "native", "var"};
+            "protected", "extends", "implements", "volatile", "native", "var", "getClass", "hashCode", "equals", "toString",
+            "notify", "notifyAll", "wait", "clone", "finalize"};
         for (String word : forbidden) {
             Expect.no("the word " + word + " stands there", Pattern.compile("\\b" + word + "\\b").matcher(text).find());
         }
@@ -62,6 +63,27 @@ public final class LanguageTest {
         Expect.no("a method reference stands there", text.contains("::"));
         Expect.no("a text stands there", text.contains("\""));
         Expect.same("classes", text.split("\\bclass\\b", -1).length - 1, 1);
+    }
+
+    /** Rule 4: every "new" makes the one array of a final field, with a length that is a constant. */
+    private static void arrays(List<String> lines) {
+        for (String line : lines) {
+            if (!line.matches(".*\\bnew\\b.*")) continue;
+            boolean ofField = line.matches("    private final (\\w+)\\[\\] \\w+ = new \\1\\[[A-Z0-9_]+\\];");
+            Expect.yes("made in the initialiser of a final field: " + line.trim(), ofField);
+        }
+    }
+
+    /** Rule 8: a loop counts from 0 up to a bound; the one "while" counts the steps that are done. */
+    private static void loops(List<String> lines) {
+        for (int i = 0; i < lines.size(); i++) {
+            String line = lines.get(i).trim();
+            if (!line.matches(".*\\b(for|while|do)\\b.*")) continue;
+            boolean counts = line.matches("for \\(int (\\w+) = 0; \\1 < \\w+; \\1\\+\\+\\) .*");
+            boolean steps = line.equals("while (done < bound) {") && bodies.get("run").contains("\n            done++;\n");
+            Expect.yes("the loop has an end: " + line, counts || steps);
+        }
+        Expect.no("a loop goes on before its counter moves", String.join("\n", lines).contains("continue"));
     }
 
     private static void readBodies(List<String> lines) {
@@ -139,6 +161,8 @@ public final class LanguageTest {
         words(String.join("\n", lines));
         readBodies(lines);
         methods();
+        arrays(lines);
+        loops(lines);
         Expect.end("LanguageTest");
     }
 }
