@@ -307,6 +307,7 @@ public final class FormsEdgeTest extends Bench {
         pushed("EIP is that of the CALL", x, FREE + 4, 0x3002, CODE, 6);
         x = ran("E8 FB FF FF FF");
         has("CALL to itself", x, EIP, 0, ESP, 0x2FC);
+        Expect.same("CALL to itself", x.peek(0x2FC, 4), 5);
         // A call to a place that cannot be fetched is done; the fetch is the next step.
         x = paged(3, "E8 00 10 00 00", ESP, NEXT_DATA);
         notDelivered("a call far away", x);
@@ -382,6 +383,7 @@ public final class FormsEdgeTest extends Bench {
         x.run(1);
         for (int i = 0; i < 8; i++) has("NOP", x, i, i == ESP ? 0x300 : 0);
         has("NOP", x, FLAGS, ALL_FLAGS | 2, EIP, 1);
+        has("NOP without flags", ran("90"), FLAGS, 2, EIP, 1);
     }
 
     private static void bytesWithoutSign() {
